@@ -11,6 +11,9 @@ public final class FindTest {
     }
 
     private static void nothing() {
+        SameAgain unfound = new SameAgain();
+        unfound.file(0, 1, 0, 8);
+        Check.due("nothing was found yet", -1, () -> unfound.groupOf(0));
         SameAgain x = new SameAgain();
         Check.due("none", 0, () -> x.find());
         Check.due("nothing read", 0, () -> x.reads());

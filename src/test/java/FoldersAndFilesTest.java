@@ -163,6 +163,9 @@ public final class FoldersAndFilesTest {
         Check.due("a link still", 3, () -> x.link(0, 0, 4));
         Check.due("bodies ever", 100, () -> x.count(7));
         Check.due("bodies there", 3, () -> x.count(2));
+        Check.due("the last body is found, too", 1, () -> x.find());
+        Check.due("two of them are read", 2, () -> x.reads());
+        Check.due("it is alone", -1, () -> x.groupOf(2));
     }
 
     private static void move() {

@@ -3,12 +3,14 @@ public final class MergeTest {
     public static void main(String[] args) {
         merge();
         owners();
+        keptIsLast();
         freedOnce();
         none();
         unmerge();
         changedSince();
         inTurn();
         latestTwenty();
+        sixtyFiles();
         tooManyBodies();
         Check.end();
     }
@@ -83,6 +85,22 @@ public final class MergeTest {
         Check.due("held", 0, () -> y.merge(0));
         y.hold(1, false);
         Check.due("the kept one may be held", 1, () -> y.merge(0));
+    }
+
+    private static void keptIsLast() {
+        SameAgain x = new SameAgain();
+        for (int i = 0; i < 3; i++) {
+            x.file(0, 9 - i, 0, 8);
+        }
+        x.find();
+        x.wish(4, 0);
+        Check.due("all before it", 2, () -> x.merge(0));
+        about("the first", x, 0, 2, 2);
+        about("the second", x, 1, 2, 2);
+        Check.due("back", 2, () -> x.unmerge());
+        about("the first", x, 0, 2, 3);
+        about("the second", x, 1, 2, 4);
+        about("the kept one", x, 2, 6, 1);
     }
 
     private static void freedOnce() {
@@ -239,6 +257,23 @@ public final class MergeTest {
         }
         Check.due("the oldest aren't kept", -1, () -> x.unmerge());
         about("three have it", x, 0, 6, 3);
+    }
+
+    private static void sixtyFiles() {
+        SameAgain x = new SameAgain();
+        for (int i = 0; i < 20; i++) {
+            x.file(0, i, 0, 8);
+        }
+        for (int i = 20; i < 60; i++) {
+            x.link(1, 0, i);
+        }
+        x.find();
+        Check.due("all but the first", 59, () -> x.merge(0));
+        about("the last got it", x, 59, 2, 0);
+        Check.due("freed", 152, () -> x.count(4));
+        Check.due("back", 59, () -> x.unmerge());
+        about("the last one's", x, 59, 2, 78);
+        Check.due("bodies ever", 79, () -> x.count(7));
     }
 
     private static void tooManyBodies() {

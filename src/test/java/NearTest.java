@@ -41,6 +41,16 @@ public final class NearTest {
         Check.due("60 of 62", 967, () -> x.near(5, 6));
         x.fill(6, 32, 33, 0);
         Check.due("56 of 66", 848, () -> x.near(5, 6));
+        x.file(0, 7, 0, 64);
+        for (int i = 0; i < 64; i++) {
+            x.fill(7, i, i + 1, 4 * (64 - i));
+        }
+        x.copy(7, 0, 8);
+        Check.due("falling pieces, of high bytes too", 1000, () -> x.near(7, 8));
+        x.fill(8, 0, 1, 1);
+        Check.due("60 of 62 of them", 967, () -> x.near(7, 8));
+        x.remove(8);
+        x.remove(7);
         Check.noSuch("no file", () -> x.near(0, 7));
         Check.noSuch("no file", () -> x.near(7, 0));
         Check.noSuch("no file", () -> x.near(-1, 0));

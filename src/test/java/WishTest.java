@@ -5,6 +5,7 @@ public final class WishTest {
         leave();
         keep();
         keepByFolder();
+        keepByFarFolder();
         keepByDay();
         order();
         Check.end();
@@ -124,6 +125,21 @@ public final class WishTest {
         kept("none is there", x, 0);
     }
 
+    private static void keepByFarFolder() {
+        SameAgain x = new SameAgain();
+        for (int i = 0; i < 15; i++) {
+            x.folder(i, 1);
+        }
+        x.file(15, 1, 0, 8);
+        x.file(0, 1, 0, 8);
+        x.find();
+        x.wish(0, 0);
+        kept("the deepest is below the top, too", x, 0);
+        x.unwish();
+        x.wish(3, 0);
+        kept("fewer folders above", x, 1);
+    }
+
     private static void keepByDay() {
         SameAgain x = new SameAgain();
         x.days(5);
@@ -170,5 +186,11 @@ public final class WishTest {
         x.wish(5, 0);
         x.wish(3, 0);
         kept("day alike, held, height", x, 1);
+        x.hold(2, true);
+        x.unwish();
+        x.wish(1, 0);
+        x.wish(5, 0);
+        x.wish(2, 0);
+        kept("all three alike: the least number", x, 0);
     }
 }
