@@ -22,7 +22,7 @@ public final class AcrossCallsTest {
         Check.end();
     }
 
-    /** "a BODY that was written since .. is in no GROUP any more": with all its names, whichever was written through. */
+    /** "a BODY that was written since .. is in no GROUP any more": with all of its names. */
     private static void writtenByAnotherName() {
         Scene s = Scenes.files(3, 8).with(x -> x.link(0, 0, 3)).with(x -> x.find());
         s.takes("one other name", 1, x -> x.write(3, 4, 7)).tells("the first is out", -1, x -> x.groupOf(0));
